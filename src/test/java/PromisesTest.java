@@ -1,12 +1,10 @@
 /** Each promise of the document by its number: ordinary inputs, the edges it names, wrong inputs. */
 public final class PromisesTest {
     private static final int NONE = CodeBlocks.NONE;
-    private static final int[] FAR = {Integer.MIN_VALUE, -1000, -2, -1, 1000000, Integer.MAX_VALUE};
-    /** Seven bytes of 0 leave nothing, so the turned check bits are all 1. */
-    private static final String ZEROS = Bits.ofBytes(0, 0, 0, 0, 0, 0, 0, 254);
-    /** The last data bit alone is x^7, which leaves x^6 + x^2 + 1. */
-    private static final String ONE = Bits.ofBytes(0, 0, 0, 0, 0, 0, 1, 116);
-    private static final String SEVEN = Bits.ofBytes(1, 2, 3, 4, 5, 6, 7, 112);
+    private static final int[] FAR = Links.FAR;
+    private static final String ZEROS = Links.ZEROS;
+    private static final String ONE = Links.ONE;
+    private static final String SEVEN = Links.SEVEN;
 
     private static final Checks CHECKS = new Checks();
 
@@ -45,41 +43,16 @@ public final class PromisesTest {
         CHECKS.due(call, got, want);
     }
 
-    /** Lets the bits come in calls of 64 and a rest: how many transmissions ended. */
     private static int feed(CodeBlocks x, String bits) {
-        int ended = 0;
-        for (int from = 0; from < bits.length(); from += 64) {
-            String part = bits.substring(from, Math.min(bits.length(), from + 64));
-            ended += x.take(part.length(), Bits.number(part));
-        }
-        return ended;
+        return Links.feed(x, bits);
     }
 
     private static CodeBlocks searching(boolean mending) {
-        CodeBlocks x = new CodeBlocks();
-        x.turn(true);
-        x.mending(mending);
-        return x;
+        return Links.searching(mending);
     }
 
     private static CodeBlocks decoding(boolean mending) {
-        CodeBlocks x = searching(mending);
-        feed(x, Bits.START);
-        return x;
-    }
-
-    private static void dueCounts(String where, CodeBlocks x, int... want) {
-        for (int what = 0; what < want.length; what++) {
-            due(where + ": count(" + what + ")", x.count(what), want[what]);
-        }
-    }
-
-    private static void dueReceived(String where, CodeBlocks x, int... want) {
-        due(where + ": size()", x.size(), want.length);
-        for (int k = 0; k < want.length; k++) {
-            due(where + ": byteAt(" + k + ")", x.byteAt(k), want[k]);
-        }
-        due(where + ": byteAt(" + want.length + ")", x.byteAt(want.length), NONE);
+        return Links.decoding(mending);
     }
 
     // Promise 1
@@ -87,8 +60,8 @@ public final class PromisesTest {
     private static void newObject() {
         CodeBlocks x = new CodeBlocks();
         due("new: state()", x.state(), 0);
-        dueCounts("new", x, 0, 0, 0, 0, 0);
-        dueReceived("new", x);
+        CHECKS.dueCounts("new", x, 0, 0, 0, 0, 0);
+        CHECKS.dueReceived("new", x);
         due("new: sent(0)", x.sent(0), NONE);
         due("new: send()", x.send(), NONE);
         due("new: take(1, 1)", x.take(1, 1L), NONE);
@@ -123,13 +96,13 @@ public final class PromisesTest {
         CodeBlocks x = decoding(false);
         feed(x, SEVEN + Bits.TAIL + Bits.START + ONE + ONE);
         x.turn(false);
-        dueReceived("off", x, 1, 2, 3, 4, 5, 6, 7);
+        CHECKS.dueReceived("off", x, 1, 2, 3, 4, 5, 6, 7);
         x.turn(true);
         due("on again: an empty one ends", feed(x, Bits.START + Bits.TAIL), 1);
-        dueReceived("on again, after an empty one", x, 1, 2, 3, 4, 5, 6, 7);
+        CHECKS.dueReceived("on again, after an empty one", x, 1, 2, 3, 4, 5, 6, 7);
         feed(x, Bits.START + ZEROS + Bits.TAIL);
-        dueReceived("on again, after a full one", x, 0, 0, 0, 0, 0, 0, 0);
-        dueCounts("on again", x, 4, 3, 4, 0, 0);
+        CHECKS.dueReceived("on again, after a full one", x, 0, 0, 0, 0, 0, 0, 0);
+        CHECKS.dueCounts("on again", x, 4, 3, 4, 0, 0);
     }
 
     private static void turnSearchesAnew() {
@@ -164,11 +137,11 @@ public final class PromisesTest {
             CodeBlocks x = searching(true);
             feed(x, Bits.flip(Bits.START, i));
             due("START with bit " + i + " wrong, mending", x.state(), 2);
-            dueCounts("START with bit " + i + " wrong", x, 1, 0, 0, 0, 1);
+            CHECKS.dueCounts("START with bit " + i + " wrong", x, 1, 0, 0, 0, 1);
             x = searching(false);
             feed(x, Bits.flip(Bits.START, i));
             due("START with bit " + i + " wrong, no mending", x.state(), 1);
-            dueCounts("START with bit " + i + " wrong, no mending", x, 0, 0, 0, 0, 0);
+            CHECKS.dueCounts("START with bit " + i + " wrong, no mending", x, 0, 0, 0, 0, 0);
             for (int j = i + 1; j < 16; j++) {
                 x = searching(true);
                 feed(x, Bits.flip(Bits.START, i, j));
@@ -177,7 +150,7 @@ public final class PromisesTest {
         }
         CodeBlocks x = searching(true);
         feed(x, Bits.START);
-        dueCounts("a right START with mending", x, 1, 0, 0, 0, 0);
+        CHECKS.dueCounts("a right START with mending", x, 1, 0, 0, 0, 0);
         x = searching(true);
         feed(x, Bits.START.substring(1));
         due("15 bits are never START", x.state(), 1);
@@ -187,12 +160,12 @@ public final class PromisesTest {
         for (int i = 0; i < 63; i++) {
             CodeBlocks x = decoding(true);
             due("block with bit " + i + " wrong, mending", feed(x, Bits.flip(SEVEN, i)), 0);
-            dueCounts("block with bit " + i + " wrong", x, 1, 0, 1, 1, 0);
+            CHECKS.dueCounts("block with bit " + i + " wrong", x, 1, 0, 1, 1, 0);
             feed(x, Bits.TAIL);
-            dueReceived("block with bit " + i + " wrong", x, 1, 2, 3, 4, 5, 6, 7);
+            CHECKS.dueReceived("block with bit " + i + " wrong", x, 1, 2, 3, 4, 5, 6, 7);
             x = decoding(false);
             due("block with bit " + i + " wrong, no mending", feed(x, Bits.flip(SEVEN, i)), 1);
-            dueCounts("block with bit " + i + " wrong, no mending", x, 1, 1, 0, 0, 0);
+            CHECKS.dueCounts("block with bit " + i + " wrong, no mending", x, 1, 1, 0, 0, 0);
             for (int j = i + 1; j < 63; j++) {
                 x = decoding(true);
                 due("block with bits " + i + " and " + j + " wrong", feed(x, Bits.flip(SEVEN, i, j)), 1);
@@ -208,7 +181,7 @@ public final class PromisesTest {
         for (boolean mending : new boolean[] {false, true}) {
             CodeBlocks x = decoding(mending);
             due("the last bit means nothing", feed(x, Bits.flip(SEVEN, 63)), 0);
-            dueCounts("the last bit means nothing", x, 1, 0, 1, 0, 0);
+            CHECKS.dueCounts("the last bit means nothing", x, 1, 0, 1, 0, 0);
         }
     }
 
@@ -229,7 +202,7 @@ public final class PromisesTest {
         due("mending before the block's last bit", feed(x, wrongBlock.substring(63)), 0);
         x.mending(false);
         feed(x, Bits.TAIL);
-        dueReceived("what was mended stays", x, 1, 2, 3, 4, 5, 6, 7);
+        CHECKS.dueReceived("what was mended stays", x, 1, 2, 3, 4, 5, 6, 7);
         x = searching(false);
         feed(x, wrongStart);
         x.mending(true);
@@ -275,7 +248,7 @@ public final class PromisesTest {
                 ended += x.take(part.length(), above | Bits.number(part));
             }
             due("in pieces of " + length + ": ended", ended, 1);
-            dueReceived("in pieces of " + length, x, 1, 2, 3, 4, 5, 6, 7, 0, 0, 0, 0, 0, 0, 1);
+            CHECKS.dueReceived("in pieces of " + length, x, 1, 2, 3, 4, 5, 6, 7, 0, 0, 0, 0, 0, 0, 1);
         }
     }
 
@@ -283,14 +256,14 @@ public final class PromisesTest {
         for (int before = 0; before < 70; before++) {
             CodeBlocks x = searching(false);
             feed(x, "1".repeat(before) + Bits.START + SEVEN + Bits.TAIL);
-            dueReceived("START behind " + before + " bits of 1", x, 1, 2, 3, 4, 5, 6, 7);
+            CHECKS.dueReceived("START behind " + before + " bits of 1", x, 1, 2, 3, 4, 5, 6, 7);
         }
         CodeBlocks x = searching(false);
         feed(x, Bits.START.substring(0, 15) + Bits.START);
         due("START behind most of itself", x.state(), 2);
         x = decoding(false);
         feed(x, Bits.START);
-        dueCounts("START is not looked for in blocks", x, 1, 0, 0, 0, 0);
+        CHECKS.dueCounts("START is not looked for in blocks", x, 1, 0, 0, 0, 0);
     }
 
     private static void takeEndsTransmissions() {
@@ -324,18 +297,18 @@ public final class PromisesTest {
             due("the 37th block: byteAt(251)", x.byteAt(251), 7);
             due("the 37th block: byteAt(258)", x.byteAt(258), 1);
             due("the 37th block: byteAt(259)", x.byteAt(259), NONE);
-            dueCounts("the 37th block", x, 1, 1, 37, 0, 0);
+            CHECKS.dueCounts("the 37th block", x, 1, 1, 37, 0, 0);
             due("TAIL behind it", feed(x, Bits.TAIL), 0);
             due("the next begins at none", feed(x, Bits.START + SEVEN.repeat(36)), 0);
             due("a 37th that can't be mended", feed(x, Bits.TAIL), 1);
             due("a 37th that can't be mended: size()", x.size(), 252);
-            dueCounts("a 37th that can't be mended", x, 2, 2, 73, 0, 0);
+            CHECKS.dueCounts("a 37th that can't be mended", x, 2, 2, 73, 0, 0);
         }
         CodeBlocks x = decoding(true);
         feed(x, SEVEN.repeat(36));
         due("a mended 37th", feed(x, Bits.flip(ONE, 55)), 1);
         due("a mended 37th: byteAt(258)", x.byteAt(258), 1);
-        dueCounts("a mended 37th", x, 1, 1, 37, 1, 0);
+        CHECKS.dueCounts("a mended 37th", x, 1, 1, 37, 1, 0);
     }
 
     private static void takeSearchesAnewBehindTheEnd() {
@@ -382,15 +355,15 @@ public final class PromisesTest {
     private static void count() {
         CodeBlocks x = searching(true);
         feed(x, Bits.flip(Bits.START, 15) + SEVEN + Bits.flip(SEVEN, 0) + Bits.flip(SEVEN, 62) + Bits.TAIL);
-        dueCounts("one", x, 1, 1, 3, 2, 1);
+        CHECKS.dueCounts("one", x, 1, 1, 3, 2, 1);
         feed(x, Bits.START + Bits.flip(SEVEN, 0, 1));
-        dueCounts("two wrong bits", x, 2, 2, 3, 2, 1);
+        CHECKS.dueCounts("two wrong bits", x, 2, 2, 3, 2, 1);
         feed(x, Bits.START + Bits.flip(SEVEN, 20));
         x.turn(false);
-        dueCounts("off", x, 3, 2, 4, 3, 1);
+        CHECKS.dueCounts("off", x, 3, 2, 4, 3, 1);
         x.turn(true);
         feed(x, Bits.flip(Bits.START, 15));
-        dueCounts("on again", x, 4, 2, 4, 3, 2);
+        CHECKS.dueCounts("on again", x, 4, 2, 4, 3, 2);
         for (int what : new int[] {5, 6, 7, 8, 64}) {
             due("count(" + what + ")", x.count(what), NONE);
         }
@@ -405,31 +378,31 @@ public final class PromisesTest {
         CodeBlocks x = decoding(false);
         int[] bytes = {255, 128, 127, 0, 170, 85, 1};
         feed(x, Bits.block(bytes) + SEVEN + Bits.TAIL);
-        dueReceived("two blocks", x, 255, 128, 127, 0, 170, 85, 1, 1, 2, 3, 4, 5, 6, 7);
+        CHECKS.dueReceived("two blocks", x, 255, 128, 127, 0, 170, 85, 1, 1, 2, 3, 4, 5, 6, 7);
         for (int k : FAR) {
             due("byteAt(" + k + ")", x.byteAt(k), NONE);
         }
         feed(x, Bits.START + ONE + Bits.TAIL);
-        dueReceived("a shorter one", x, 0, 0, 0, 0, 0, 0, 1);
+        CHECKS.dueReceived("a shorter one", x, 0, 0, 0, 0, 0, 0, 1);
         due("no byte of the longer one before", x.byteAt(13), NONE);
     }
 
     private static void receivedStaysUntilTheNextEnd() {
         CodeBlocks x = decoding(false);
         feed(x, SEVEN);
-        dueReceived("before the first end", x);
+        CHECKS.dueReceived("before the first end", x);
         feed(x, Bits.TAIL);
-        dueReceived("first", x, 1, 2, 3, 4, 5, 6, 7);
+        CHECKS.dueReceived("first", x, 1, 2, 3, 4, 5, 6, 7);
         feed(x, Bits.START + ONE + ONE);
-        dueReceived("while the second comes", x, 1, 2, 3, 4, 5, 6, 7);
+        CHECKS.dueReceived("while the second comes", x, 1, 2, 3, 4, 5, 6, 7);
         feed(x, Bits.TAIL);
-        dueReceived("second", x, 0, 0, 0, 0, 0, 0, 1, 0, 0, 0, 0, 0, 0, 1);
+        CHECKS.dueReceived("second", x, 0, 0, 0, 0, 0, 0, 1, 0, 0, 0, 0, 0, 0, 1);
         feed(x, Bits.START);
         feed(x, Bits.TAIL);
-        dueReceived("behind an empty one", x, 0, 0, 0, 0, 0, 0, 1, 0, 0, 0, 0, 0, 0, 1);
+        CHECKS.dueReceived("behind an empty one", x, 0, 0, 0, 0, 0, 0, 1, 0, 0, 0, 0, 0, 0, 1);
         feed(x, Bits.START + SEVEN);
         x.turn(false);
-        dueReceived("off", x, 0, 0, 0, 0, 0, 0, 1, 0, 0, 0, 0, 0, 0, 1);
+        CHECKS.dueReceived("off", x, 0, 0, 0, 0, 0, 0, 1, 0, 0, 0, 0, 0, 0, 1);
     }
 
     // Promise 9
@@ -464,7 +437,7 @@ public final class PromisesTest {
         }
         due("sent(0) before send()", x.sent(0), NONE);
         due("send() of seven", x.send(), 18);
-        dueSent("seven", x, 235, 144, 1, 2, 3, 4, 5, 6, 7, 112, 197, 197, 197, 197, 197, 197, 197, 121);
+        CHECKS.dueSent("seven", x, 235, 144, 1, 2, 3, 4, 5, 6, 7, 112, 197, 197, 197, 197, 197, 197, 197, 121);
         due("send() again", x.send(), NONE);
         due("sent(9) stays", x.sent(9), 112);
         x.put(200);
@@ -476,13 +449,6 @@ public final class PromisesTest {
         String block = Bits.block(200, 0, 0, 0, 0, 0, 0);
         due("sent(2) of the next", x.sent(2), 200);
         due("sent(9) of the next", x.sent(9), Bits.number(block) & 255);
-    }
-
-    private static void dueSent(String where, CodeBlocks x, int... want) {
-        for (int k = 0; k < want.length; k++) {
-            due(where + ": sent(" + k + ")", x.sent(k), want[k]);
-        }
-        due(where + ": sent(" + want.length + ")", x.sent(want.length), NONE);
     }
 
     private static void sendFills() {
@@ -536,27 +502,39 @@ public final class PromisesTest {
         a.send();
         a.put(2);
         due("another object: state()", b.state(), 0);
-        dueReceived("another object", b);
-        dueCounts("another object", b, 0, 0, 0, 0, 0);
+        CHECKS.dueReceived("another object", b);
+        CHECKS.dueCounts("another object", b, 0, 0, 0, 0, 0);
         due("another object: sent(0)", b.sent(0), NONE);
         due("another object: send()", b.send(), NONE);
     }
 
+    private static CodeBlocks sender(int bytes) {
+        CodeBlocks x = new CodeBlocks();
+        for (int i = 0; i < bytes; i++) {
+            x.put(i * 37 + 11);
+        }
+        return x;
+    }
+
+    /** The bits of a transmission, read from two senders by turns: one has not calls enough. */
+    private static String transmission(int bytes) {
+        CodeBlocks[] senders = {sender(bytes), sender(bytes)};
+        int length = senders[0].send();
+        due(bytes + " bytes: send() of another", senders[1].send(), length);
+        StringBuilder bits = new StringBuilder();
+        for (int k = 0; k < length; k++) {
+            bits.append(Bits.ofNumber(senders[k % 2].sent(k), 8));
+        }
+        return bits.toString();
+    }
+
     private static void sentIsReceived() {
         for (int bytes : new int[] {1, 7, 8, 100, 252, 253, 259}) {
-            CodeBlocks sender = new CodeBlocks();
             CodeBlocks receiver = searching(bytes % 2 == 0);
-            for (int i = 0; i < bytes; i++) {
-                sender.put(i * 37 + 11);
-            }
-            int length = sender.send();
-            int ended = 0;
-            for (int k = 0; k < length; k++) {
-                ended += receiver.take(8, sender.sent(k));
-            }
-            due(bytes + " bytes: ended", ended, 1);
-            due(bytes + " bytes: size()", receiver.size(), (bytes + 6) / 7 * 7);
-            for (int k = 0; k < receiver.size(); k++) {
+            due(bytes + " bytes: ended", feed(receiver, transmission(bytes)), 1);
+            int size = (bytes + 6) / 7 * 7;
+            due(bytes + " bytes: size()", receiver.size(), size);
+            for (int k = 0; k < size; k++) {
                 due(bytes + " bytes: byteAt(" + k + ")", receiver.byteAt(k), k < bytes ? k * 37 + 11 & 255 : 85);
             }
         }
