@@ -1,6 +1,7 @@
 /**
  * A command link's two ends: a sender that makes transmissions of code blocks, and a receiver that
- * finds them in a stream of bits and mends what has one wrong bit.
+ * finds them in a stream of bits, of which some are wrong, mends what has one wrong bit, and ends a
+ * transmission with the first block that it can't mend.
  */
 public final class CodeBlocks {
     /** Nothing there. */
@@ -19,6 +20,7 @@ public final class CodeBlocks {
 
     private static final int START = 0b1110101110010000;
     private static final int START_BITS = 16;
+    private static final long START_MASK = 0xFFFFL;
     private static final int START_BYTES = 2;
     private static final int TAIL_BYTES = 8;
     private static final int[] TAIL = {197, 197, 197, 197, 197, 197, 197, 121};
@@ -37,6 +39,8 @@ public final class CodeBlocks {
     private static final int DIVISOR = 0b11000101;
     private static final int DIVISOR_TOP = 0b10000000;
 
+    private static final int MOST_TAKEN = 64;
+    private static final int BYTE_BITS = 8;
     private static final int BYTE_MASK = 255;
     private static final int FILL_BYTE = 85;
 
@@ -83,7 +87,7 @@ public final class CodeBlocks {
     }
 
     public int take(int n, long w) {
-        if (state == OFF || n < 1 || n > 64) {
+        if (state == OFF || n < 1 || n > MOST_TAKEN) {
             return NONE;
         }
         int endedBefore = counts[ENDED];
@@ -162,7 +166,7 @@ public final class CodeBlocks {
         if (came < START_BITS) {
             return;
         }
-        int wrongBits = Integer.bitCount((int) (bits & 0xFFFFL) ^ START);
+        int wrongBits = Integer.bitCount((int) (bits & START_MASK) ^ START);
         if (wrongBits == 0) {
             beginTransmission();
         } else if (wrongBits == 1 && mends) {
@@ -181,10 +185,10 @@ public final class CodeBlocks {
     private void lookAtBlock() {
         long code = (bits >>> 1) ^ CHECK_MASK;
         int remainder = remainderOf(code);
-        int wrongPower = powerWithRemainder(remainder);
+        int wrongPower = mends ? powerWithRemainder(remainder) : NONE;
         if (remainder == 0) {
             keepData(code);
-        } else if (mends && wrongPower != NONE) {
+        } else if (wrongPower != NONE) {
             counts[MENDED_BLOCKS]++;
             keepData(code ^ (1L << wrongPower));
         } else {
@@ -227,7 +231,7 @@ public final class CodeBlocks {
         return remainder;
     }
 
-    /** The one power of x below 63 that leaves this remainder; NONE if none does. */
+    /** The one power of x below 63 that leaves this remainder (no two leave the same); NONE if none does. */
     private static int powerWithRemainder(int remainder) {
         int candidate = 1;
         for (int power = 0; power < CODE_BITS; power++) {
@@ -249,7 +253,7 @@ public final class CodeBlocks {
     }
 
     private static int byteOf(long word, int bytesBehind) {
-        return (int) (word >>> (8 * bytesBehind)) & BYTE_MASK;
+        return (int) (word >>> (BYTE_BITS * bytesBehind)) & BYTE_MASK;
     }
 
     // The sender.
@@ -263,7 +267,7 @@ public final class CodeBlocks {
     private long waitingData(int from) {
         long data = 0L;
         for (int at = from; at < from + DATA_BYTES && at >= 0 && at < waiting.length; at++) {
-            data = (data << 8) | waiting[at];
+            data = (data << BYTE_BITS) | waiting[at];
         }
         return data;
     }

@@ -28,6 +28,7 @@ public final class LongRunTest {
         }
         madeOnce();
         objectsAreApart();
+        laterCallsThrowNothing();
         CHECKS.end();
     }
 
@@ -250,5 +251,38 @@ public final class LongRunTest {
         b.turn(true);
         Links.feed(b, Bits.flip(Bits.START, 1));
         due("another object: mending", b.state(), 1);
+    }
+
+    // LANGUAGE.md
+
+    /** What later calls answer is free, but no call may ever throw: a throw ends this test with exit code 1. */
+    private static void laterCallsThrowNothing() {
+        CHECKS.sentence("LANGUAGE.md, rule 7", "No call may ever throw by itself");
+        CodeBlocks x = Links.searching(true);
+        String stream = full();
+        int calls = 0;
+        for (int n = 0; n < 2000; n++) {
+            int from = n * 61 % (stream.length() - 64);
+            x.take(64, Bits.number(stream.substring(from, from + 64)));
+            x.take(n, -1L);
+            x.put(n);
+            x.sent(n);
+            x.byteAt(n);
+            x.count(n);
+            if (n % 500 == 499) {
+                x.send();
+                x.turn(n % 1000 == 499);
+            }
+            calls += 6;
+        }
+        for (int k : Links.FAR) {
+            x.take(k, k);
+            x.put(k);
+            x.sent(k);
+            x.byteAt(k);
+            x.count(k);
+            calls += 5;
+        }
+        CHECKS.due("many calls came back", calls > CALLS, true);
     }
 }
